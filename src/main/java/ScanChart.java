@@ -317,6 +317,10 @@ public final class ScanChart {
             return value;
         }
 
+        boolean isBlock() {
+            return form == FORM_TIMER || form == FORM_COUNTER || form == FORM_CLEAR || form == FORM_EDGE;
+        }
+
         /** Whether a jump or return of this word is taken with that result. */
         boolean isTaken(int result) {
             return mode == MODE_PLAIN || (mode == MODE_C) == (result != 0);
@@ -355,11 +359,6 @@ public final class ScanChart {
             return true;
         }
 
-        boolean isFigureAt(int i) {
-            int found = byteAt(i);
-            return found >= '0' && found <= '9';
-        }
-
         /** The number that the figures there tell, but not above the cap; NONE when they aren't figures alone. */
         long numberIn(int begin, int end) {
             if (begin >= end) {
@@ -367,10 +366,11 @@ public final class ScanChart {
             }
             long number = 0;
             for (int i = begin; i < end; i++) {
-                if (!isFigureAt(i)) {
+                int figure = byteAt(i) - '0';
+                if (figure < 0 || figure > 9) {
                     return NONE;
                 }
-                number = Math.min(number * 10 + (byteAt(i) - '0'), NUMBER_CAP);
+                number = Math.min(number * 10 + figure, NUMBER_CAP);
             }
             return number;
         }
@@ -456,7 +456,8 @@ public final class ScanChart {
         private int from;
         private int to;
         private int figures;
-        // How many brackets are open.
+        // Whether the line's word has a bracket behind, and how many are open.
+        private boolean opens;
         private int open;
         // What the last cell or number read was.
         private int gotKind;
@@ -477,10 +478,13 @@ public final class ScanChart {
             advance();
             // Each line takes a byte at least.
             for (int line = 0; line <= MOST_TEXT && token != TOKEN_END; line++) {
-                if (isLabel() && !readLabel()) {
-                    return false;
+                boolean fine = !isLabel() || readLabel();
+                if (fine && token == TOKEN_WORD) {
+                    Op op = readOp();
+                    fine = op != null && (op.form == FORM_GO ? readGo()
+                            : op.form == FORM_STEP ? readStep() : readOperands(op));
                 }
-                if (token == TOKEN_WORD && !readInstruction()) {
+                if (!fine) {
                     return false;
                 }
                 if (token != TOKEN_LINE_END) {
@@ -492,7 +496,9 @@ public final class ScanChart {
         }
 
         private boolean fail(int kind) {
-            return failAt(kind, from);
+            faultMet = kind;
+            faultPlace = from;
+            return false;
         }
 
         private boolean failAt(int kind, int place) {
@@ -519,7 +525,7 @@ public final class ScanChart {
                 token = TOKEN_END;
             }
             figures = to;
-            while (figures > from && text.isFigureAt(figures - 1)) {
+            while (figures > from && text.byteAt(figures - 1) >= '0' && text.byteAt(figures - 1) <= '9') {
                 figures--;
             }
         }
@@ -554,31 +560,29 @@ public final class ScanChart {
             return true;
         }
 
-        private boolean readInstruction() {
-            boolean opens = text.byteAt(to - 1) == '(';
+        /** The first word behind the label; null with a fault. */
+        private Op readOp() {
+            opens = text.byteAt(to - 1) == '(';
             Op op = opSpelled(from, opens ? to - 1 : to);
+            int kind = 0;
             if (op == null || opens && op.form != FORM_CALCULATE) {
-                return fail(FAULT_WORD);
+                kind = FAULT_WORD;
+            } else if (isFull(op)) {
+                kind = FAULT_MANY;
+            } else if (!isAllowedByBrackets(op)) {
+                kind = FAULT_BRACKET;
             }
-            if (isFull(op)) {
-                return fail(FAULT_MANY);
-            }
-            if (!isAllowedByBrackets(op, opens)) {
-                return fail(FAULT_BRACKET);
-            }
-            advance();
-            if (op.form == FORM_STEP) {
-                return readStep();
-            }
-            if (op.form == FORM_GO) {
-                return readGo();
+            if (kind != 0) {
+                fail(kind);
+                return null;
             }
             if (opens) {
                 open++;
-                program.add(op, KIND_NOTHING, 0, 0);
-                return true;
+            } else if (op.form == FORM_CLOSE) {
+                open--;
             }
-            return readOperands(op);
+            advance();
+            return op;
         }
 
         private Op opSpelled(int begin, int end) {
@@ -597,7 +601,7 @@ public final class ScanChart {
             return op.form != FORM_STEP && program.count >= MOST_INSTRUCTIONS;
         }
 
-        private boolean isAllowedByBrackets(Op op, boolean opens) {
+        private boolean isAllowedByBrackets(Op op) {
             switch (op.form) {
                 case FORM_CALCULATE:
                     return !opens || open < MOST_OPEN;
@@ -618,7 +622,7 @@ public final class ScanChart {
             int limit = 0;
             gotKind = KIND_NOTHING;
             gotNumber = 0;
-            int only = operandsOf(op);
+            int only = opens ? 0 : operandsOf(op);
             if (only != 0 && !readCell(only)) {
                 return false;
             }
@@ -631,8 +635,6 @@ public final class ScanChart {
                 limit = gotNumber;
             } else if (op.form == FORM_JUMP) {
                 noteNamed(labelNamed, number, place);
-            } else if (op.form == FORM_CLOSE) {
-                open--;
             }
             program.add(op, kind, number, limit);
             return true;
@@ -761,7 +763,6 @@ public final class ScanChart {
                 return false;
             }
             int condition = isWord("IF") ? IF : isWord("IFN") ? IFN : ALWAYS;
-            gotKind = KIND_NOTHING;
             if (condition != ALWAYS) {
                 advance();
                 if (!readCell(ONLY_OPERANDS)) {
@@ -855,7 +856,7 @@ public final class ScanChart {
         }
 
         void setTimer(int i, boolean is, int gone) {
-            setBit(KIND_T, i, is);
+            put(masks, KIND_T, withBit(at(masks, KIND_T), i, is));
             put(elapsed, i, gone);
         }
 
@@ -871,7 +872,6 @@ public final class ScanChart {
         private int offHadIt = 0;
         private int offRuns = 0;
         private final long[] offBegan = new long[BLOCKS];
-        private int pulseHadIt = 0;
         private int pulseRuns = 0;
         private final long[] pulseBegan = new long[BLOCKS];
         private int upHadIt = 0;
@@ -884,7 +884,6 @@ public final class ScanChart {
             onRuns = 0;
             offHadIt = 0;
             offRuns = 0;
-            pulseHadIt = 0;
             pulseRuns = 0;
             upHadIt = 0;
             downHadIt = 0;
@@ -932,14 +931,13 @@ public final class ScanChart {
         }
 
         void pulse(Cells cells, int i, boolean is, int limit, long now) {
-            if (is && !isSet(pulseRuns, i) && !isSet(pulseHadIt, i)) {
-                pulseRuns = withBit(pulseRuns, i, true);
-                begin(pulseBegan, i, now);
-            }
-            pulseHadIt = withBit(pulseHadIt, i, is);
-            if (!isSet(pulseRuns, i)) {
+            if (!is && !isSet(pulseRuns, i)) {
                 cells.setTimer(i, false, 0);
                 return;
+            }
+            // A pulse ends only without x: with none going on, the last TP had no x.
+            if (!isSet(pulseRuns, i)) {
+                begin(pulseBegan, i, now);
             }
             int gone = goneSince(pulseBegan, i, now, limit);
             boolean over = gone == limit && !is;
@@ -1025,7 +1023,15 @@ public final class ScanChart {
             for (int k = 0; k < MOST_DONE && next < program.count; k++) {
                 int here = next;
                 next = here + 1;
-                perform(program, here);
+                Op op = program.opAt(here);
+                if (op == null) {
+                    return;
+                }
+                if (op.isBlock()) {
+                    performBlock(op, at(program.numbers, here), at(program.limits, here));
+                } else {
+                    perform(op, program, here);
+                }
                 if (stop != 0) {
                     return;
                 }
@@ -1036,11 +1042,7 @@ public final class ScanChart {
             }
         }
 
-        private void perform(Program program, int here) {
-            Op op = program.opAt(here);
-            if (op == null) {
-                return;
-            }
+        private void perform(Op op, Program program, int here) {
             int kind = at(program.kinds, here);
             int number = at(program.numbers, here);
             switch (op.form) {
@@ -1079,7 +1081,6 @@ public final class ScanChart {
                     }
                     break;
                 default:
-                    performBlock(op, number, at(program.limits, here));
                     break;
             }
         }

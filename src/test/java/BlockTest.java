@@ -199,6 +199,8 @@ public final class BlockTest {
         Check.same("TP's T", x.word(3), 1);
         Check.same("TE", x.block(0, 1), 4);
         Check.same("another timer", x.block(1, 1), 0);
+        Check.same("a counter", x.block(0, 3), 0);
+        Check.same("a counter's C", x.block(0, 2), 0);
     }
 
     private static void skippedTimers() {
@@ -230,6 +232,14 @@ public final class BlockTest {
         x.input(0, false);
         x.scan(1);
         Check.same("TOF without x since the reset", x.block(1, 0), 0);
+        Check.same("TOF without x since the reset", x.block(1, 1), 0);
+        ScanChart y = Check.loaded("LD I0; TOF T0 10; ST W0;");
+        timer(y, 0, true, 1, 1, 0);
+        timer(y, 0, false, 1, 1, 0);
+        y.reset();
+        timer(y, 0, false, 1, 0, 0);
+        timer(y, 0, true, 1, 1, 0);
+        timer(y, 0, false, 1, 1, 0);
         x.input(0, true);
         x.scan(1);
         x.scan(3);

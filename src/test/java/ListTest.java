@@ -166,6 +166,15 @@ public final class ListTest {
         result("LD 100; SUB(; LD 50; SUB(; LD 20; SUB(; LD 5; ); ); ); ADD 1;", 66);
         result(Check.times(8, "ADD 1; MUL 2; SUB(;") + "LD 3;" + Check.times(8, ");"), 3);
         result("LD 7; ADD(; LD 2; ST W5; ); ADD(; LD W5; MUL 10; );", 29);
+        result("LD 100; SUB(; LD 10; S Q0; R Q0; SUB 3; );", 93);
+        ScanChart y = Check.loaded("LD 50; ADD I0; SUB(; LD 9; DIV I0; ); ST W0;");
+        for (int k = 0; k < 20; k++) {
+            Check.same("a stop inside a bracket", y.scan(1), 2);
+            y.reset();
+        }
+        y.input(0, true);
+        Check.same("scan", y.scan(1), 0);
+        Check.same("what was put aside before a stop is gone", y.word(0), 42);
         ScanChart x = Check.loaded("LD 10; SUB(; LD 3; ); ST W0;");
         x.scan(1);
         Check.same("each ) counts as an instruction", x.done(), 5);

@@ -27,6 +27,7 @@ public final class LoadTest {
         firstFault();
         faultChangesNothing();
         loadResets();
+        loadsAreApart();
         Check.end("LoadTest");
     }
 
@@ -396,6 +397,28 @@ public final class LoadTest {
         Check.feed(y, "x");
         Check.same("load", y.load(), -1);
         Check.same("a fault doesn't undo the stop", y.scan(1), -1);
+    }
+
+    /** Nothing of a text read before is left over, be it a program or a fault. */
+    private static void loadsAreApart() {
+        ScanChart x = new ScanChart();
+        for (int k = 0; k < 3; k++) {
+            Check.reload(x, "L0: LD 1; JMP L0; STEP 0 N Q0 S Q1 S M2; STEP 1; GO 0 TO 1; JMP L7; L7:;");
+            Check.reload(x, "STEP 0; STEP 1; LD 1; ST Q2;");
+            Check.reload(x, "STEP 0; LD 1; ST Q0; L0:; L7:;");
+            Check.same("scan", x.scan(1), 0);
+            Check.same("Q", x.bits(1), 1);
+            Check.same("M", x.bits(2), 0);
+            Check.same("X", x.bits(3), 1);
+            Check.same("done", x.done(), 2);
+            x.wipe();
+            Check.feed(x, "JMP L5; GO 9 TO 0; AND(;");
+            Check.same("load", x.load(), -1);
+            Check.same("fault", x.fault(), 1 + 4);
+            Check.same("place", x.place(), 24);
+            Check.reload(x, "LD 1;");
+            Check.same("fault", x.fault(), 0);
+        }
     }
 
     private static void loadResets() {
