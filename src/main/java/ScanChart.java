@@ -95,6 +95,10 @@ public final class ScanChart {
     private static final int TOKEN_WORD = 2;
 
     private static final int LAST_BLANK = 32;
+    // Of the numbers of cells, edges, labels and steps.
+    private static final int MOST_FIGURES = 2;
+    private static final int LEAST_NUMBER = -2147483648;
+    private static final int MOST_NUMBER = 2147483647;
     // Far above every range, so that a long row of figures can't wrap into one.
     private static final long NUMBER_CAP = 10000000000L;
 
@@ -545,7 +549,7 @@ public final class ScanChart {
 
         private boolean readLabel() {
             long number = text.numberIn(from + 1, to - 1);
-            if (to - from > 4 || number < 0 || number >= LABELS) {
+            if (to - from - 2 > MOST_FIGURES || number < 0 || number >= LABELS) {
                 return fail(FAULT_RANGE);
             }
             int label = (int) number;
@@ -564,16 +568,16 @@ public final class ScanChart {
         private Op readOp() {
             opens = text.byteAt(to - 1) == '(';
             Op op = opSpelled(from, opens ? to - 1 : to);
-            int kind = 0;
             if (op == null || opens && op.form != FORM_CALCULATE) {
-                kind = FAULT_WORD;
-            } else if (isFull(op)) {
-                kind = FAULT_MANY;
-            } else if (!isAllowedByBrackets(op)) {
-                kind = FAULT_BRACKET;
+                fail(FAULT_WORD);
+                return null;
             }
-            if (kind != 0) {
-                fail(kind);
+            if (isFull(op)) {
+                fail(FAULT_MANY);
+                return null;
+            }
+            if (!isAllowedByBrackets(op)) {
+                fail(FAULT_BRACKET);
                 return null;
             }
             if (opens) {
@@ -690,10 +694,10 @@ public final class ScanChart {
             long number = text.numberIn(figures, to);
             if (kind == KIND_NUMBER) {
                 number = figures > from ? -number : number;
-                if (number < Integer.MIN_VALUE || number > Integer.MAX_VALUE) {
+                if (number < LEAST_NUMBER || number > MOST_NUMBER) {
                     return fail(FAULT_RANGE);
                 }
-            } else if (to - figures > 2 || number >= at(RANGES, kind)) {
+            } else if (to - figures > MOST_FIGURES || number >= at(RANGES, kind)) {
                 return fail(FAULT_RANGE);
             }
             gotKind = kind;
@@ -717,7 +721,7 @@ public final class ScanChart {
 
         private boolean readStep() {
             int place = from;
-            if (!readFigures(2, STEPS - 1)) {
+            if (!readFigures(MOST_FIGURES, STEPS - 1)) {
                 return false;
             }
             if (isSet(program.chart.steps, gotNumber)) {
@@ -778,7 +782,7 @@ public final class ScanChart {
             int mask = 0;
             for (int k = 0; k < MOST_NAMED_STEPS && (k == 0 || isFigures()); k++) {
                 int place = from;
-                if (!readFigures(2, STEPS - 1)) {
+                if (!readFigures(MOST_FIGURES, STEPS - 1)) {
                     return 0;
                 }
                 noteNamed(stepNamed, gotNumber, place);
