@@ -134,6 +134,7 @@ public final class ScanChart {
         reader.program = program;
         program = read;
         machine.startAgain();
+        machine.forgetLastScan();
         return program.count;
     }
 
@@ -982,7 +983,7 @@ public final class ScanChart {
         }
     }
 
-    /** Does the scans, and holds all that a reset brings back. */
+    /** Does the scans, and holds all that a reset or a load brings back. */
     private static final class Machine {
         final Cells cells = new Cells();
         long now = 0;
@@ -997,13 +998,19 @@ public final class ScanChart {
         private final int[] asideResults = new int[MOST_OPEN];
         private final Op[] asideOps = new Op[MOST_OPEN];
 
-        /** What done() and fired() tell is of the last scan, which a reset doesn't undo. */
+        /** What done() and fired() tell is of the last scan: a reset alone leaves it, as the document doesn't list it. */
         void startAgain() {
             cells.clear();
             past.clear();
             now = 0;
             outputs = 0;
             stop = 0;
+        }
+
+        /** With a program loaded no scan has been done yet: the last one was of the program before. */
+        void forgetLastScan() {
+            performed = 0;
+            gosFired = 0;
         }
 
         void goRound(Program program, int inputs, int ticks) {

@@ -224,6 +224,8 @@ public final class AnswerTest {
         Check.same("done", y.done(), 1);
         Check.same("fired", y.fired(), 1);
         Check.reload(y, "");
+        Check.same("done behind a load", y.done(), 0);
+        Check.same("fired behind a load", y.fired(), 0);
         y.scan(1);
         Check.same("done", y.done(), 0);
         Check.same("fired", y.fired(), 0);

@@ -27,6 +27,8 @@ public final class LoadTest {
         firstFault();
         faultChangesNothing();
         loadResets();
+        loadForgetsTheLastScan();
+        faultKeepsTheLastScan();
         loadsAreApart();
         Check.end("LoadTest");
     }
@@ -438,5 +440,45 @@ public final class LoadTest {
         Check.same("done", x.done(), 0);
         Check.same("X", x.bits(3), 1);
         Check.same("fired", x.fired(), 0);
+    }
+
+    /** Behind a load all answers are those of a new object, also done() and fired(): no scan has been done yet. */
+    private static void loadForgetsTheLastScan() {
+        long[] fresh = Check.answers(new ScanChart());
+        String[] texts = {"LD 1; ST Q0; STEP 0 S M1; STEP 1 N Q2; GO 0 TO 1;", "STEP 0; GO 0 TO 0;", "LD 1; DIV 0;",
+            "L0: JMP L0;", "LD 1; TON T0 0; CTU C0 0; ST W3;"};
+        for (String text : texts) {
+            ScanChart x = Check.loaded(text);
+            long due = x.load();
+            for (int k = 0; k < 3; k++) {
+                x.scan(3);
+                Check.same("a scan of '" + text + "' can be seen", x.done() + x.fired() > 0, true);
+                Check.same("load", x.load(), due);
+                Check.unchanged("a load of the same text makes '" + text + "' as new: it", x, fresh);
+            }
+            x.run(5, 3);
+            Check.reload(x, "");
+            Check.unchanged("a load of no text behind '" + text + "' makes all as new: it", x, fresh);
+        }
+    }
+
+    /** A load with a fault resets nothing, so the last scan is still the last one; a reset doesn't undo it either. */
+    private static void faultKeepsTheLastScan() {
+        ScanChart x = Check.loaded("LD 1; ST Q0; STEP 0; GO 0 TO 0;");
+        x.scan(1);
+        Check.feed(x, "x");
+        Check.same("load", x.load(), -1);
+        Check.same("done", x.done(), 2);
+        Check.same("fired", x.fired(), 1);
+        x.reset();
+        Check.same("load", x.load(), -1);
+        Check.same("done behind a reset and a fault", x.done(), 2);
+        Check.same("fired behind a reset and a fault", x.fired(), 1);
+        Check.reload(x, "STEP 0; GO 0 TO 0;");
+        Check.same("done", x.done(), 0);
+        Check.same("fired", x.fired(), 0);
+        Check.same("scan", x.scan(1), 0);
+        Check.same("done", x.done(), 0);
+        Check.same("fired", x.fired(), 1);
     }
 }

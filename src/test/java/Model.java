@@ -187,6 +187,8 @@ final class Model {
         fault = 0;
         program = lines;
         reset();
+        done = 0;
+        fired = 0;
         return instructions;
     }
 

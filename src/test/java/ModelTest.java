@@ -182,13 +182,20 @@ public final class ModelTest {
             say("feed", x.feed(n, piece), m.feed(n, piece));
             i += n;
         }
+        int got = load(x, m);
+        loads++;
+        FAULTS[x.fault()]++;
+        good += got >= 0 ? 1 : 0;
+    }
+
+    /** A load, and all that can be seen right behind it. */
+    private static int load(ScanChart x, Model m) {
         int got = x.load();
         say("load", got, m.load());
         say("fault", x.fault(), m.fault());
         say("place", x.place(), m.place());
-        loads++;
-        FAULTS[x.fault()]++;
-        good += got >= 0 ? 1 : 0;
+        compareAll(x, m);
+        return got;
     }
 
     private static void call(ScanChart x, Model m) {
@@ -214,6 +221,9 @@ public final class ModelTest {
             history = history + " reset";
             x.reset();
             m.reset();
+        } else if (next(6) == 0) {
+            history = history + " load";
+            load(x, m);
         } else {
             compareAll(x, m);
         }
