@@ -134,7 +134,6 @@ public final class ScanChart {
         reader.program = program;
         program = read;
         machine.startAgain();
-        machine.forgetLastScan();
         return program.count;
     }
 
@@ -998,17 +997,13 @@ public final class ScanChart {
         private final int[] asideResults = new int[MOST_OPEN];
         private final Op[] asideOps = new Op[MOST_OPEN];
 
-        /** What done() and fired() tell is of the last scan: a reset alone leaves it, as the document doesn't list it. */
+        /** Behind it no scan has been done, so that the last one is forgotten too. */
         void startAgain() {
             cells.clear();
             past.clear();
             now = 0;
             outputs = 0;
             stop = 0;
-        }
-
-        /** With a program loaded no scan has been done yet: the last one was of the program before. */
-        void forgetLastScan() {
             performed = 0;
             gosFired = 0;
         }

@@ -6,6 +6,7 @@ public final class AnswerTest {
 
     public static void main(String[] args) {
         resets();
+        resetForgetsTheLastScan();
         inputs();
         scansWithTicks();
         runs();
@@ -33,11 +34,7 @@ public final class AnswerTest {
         ScanChart x = busy();
         long[] fresh = Check.answers(new ScanChart());
         x.reset();
-        long[] got = Check.answers(x);
-        for (int k = 0; k < fresh.length; k++) {
-            // done() tells of the last scan, which was before the reset.
-            Check.same("answer " + k + " behind a reset", got[k], k == 2 ? 12 : fresh[k]);
-        }
+        Check.unchanged("a reset makes all as new: it", x, fresh);
         Check.same("scan", x.scan(1), 0);
         Check.same("inputs stay", x.bits(0), 1 | 32 | 512);
         Check.same("the program stays", x.word(0), 1);
@@ -45,7 +42,6 @@ public final class AnswerTest {
         y.scan(1);
         y.reset();
         Check.same("X", y.bits(3), 1);
-        Check.same("fired() tells of the last scan", y.fired(), 1);
         Check.same("fault stays", y.fault(), 0);
         Check.feed(y, "x");
         y.load();
@@ -58,6 +54,32 @@ public final class AnswerTest {
         z.reset();
         z.input(0, true);
         Check.same("a reset undoes the stop", z.scan(1), 0);
+    }
+
+    /** Behind a reset no scan has been done: all answers are those of a new object, also done() and fired(). */
+    private static void resetForgetsTheLastScan() {
+        long[] fresh = Check.answers(new ScanChart());
+        String[] texts = {"LD 1; ST Q0; STEP 0 S M1; STEP 1 N Q2; GO 0 TO 1;", "STEP 0; GO 0 TO 0;", "LD 1; DIV 0;",
+            "L0: JMP L0;", "LD 1; TON T0 0; CTU C0 0; ST W3;"};
+        for (String text : texts) {
+            ScanChart x = Check.loaded(text);
+            for (int k = 0; k < 3; k++) {
+                int answer = x.scan(3);
+                int done = x.done();
+                int fired = x.fired();
+                Check.same("a scan of '" + text + "' can be seen", done + fired > 0, true);
+                x.reset();
+                Check.unchanged("a reset makes '" + text + "' as new: it", x, fresh);
+                x.run(0, 3);
+                Check.unchanged("a run of none behind a reset of '" + text + "'", x, fresh);
+                Check.same("the first scan of '" + text + "' again", x.scan(3), answer);
+                Check.same("done", x.done(), done);
+                Check.same("fired", x.fired(), fired);
+                x.run(5, 3);
+                x.reset();
+                Check.unchanged("a reset behind a run of '" + text + "'", x, fresh);
+            }
+        }
     }
 
     private static void inputs() {

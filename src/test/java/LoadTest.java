@@ -462,7 +462,7 @@ public final class LoadTest {
         }
     }
 
-    /** A load with a fault resets nothing, so the last scan is still the last one; a reset doesn't undo it either. */
+    /** A load with a fault resets nothing, so the last scan is still the last one, until a reset. */
     private static void faultKeepsTheLastScan() {
         ScanChart x = Check.loaded("LD 1; ST Q0; STEP 0; GO 0 TO 0;");
         x.scan(1);
@@ -472,8 +472,12 @@ public final class LoadTest {
         Check.same("fired", x.fired(), 1);
         x.reset();
         Check.same("load", x.load(), -1);
-        Check.same("done behind a reset and a fault", x.done(), 2);
-        Check.same("fired behind a reset and a fault", x.fired(), 1);
+        Check.same("done behind a reset and a fault", x.done(), 0);
+        Check.same("fired behind a reset and a fault", x.fired(), 0);
+        Check.same("scan", x.scan(1), 0);
+        Check.same("load", x.load(), -1);
+        Check.same("done", x.done(), 2);
+        Check.same("fired", x.fired(), 1);
         Check.reload(x, "STEP 0; GO 0 TO 0;");
         Check.same("done", x.done(), 0);
         Check.same("fired", x.fired(), 0);

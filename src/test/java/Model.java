@@ -84,6 +84,8 @@ final class Model {
         outputs = 0;
         time = 0;
         stop = 0;
+        done = 0;
+        fired = 0;
     }
 
     void input(int i, boolean is) {
@@ -187,8 +189,6 @@ final class Model {
         fault = 0;
         program = lines;
         reset();
-        done = 0;
-        fired = 0;
         return instructions;
     }
 

@@ -221,6 +221,7 @@ public final class ModelTest {
             history = history + " reset";
             x.reset();
             m.reset();
+            compareAll(x, m);
         } else if (next(6) == 0) {
             history = history + " load";
             load(x, m);
