@@ -3,6 +3,9 @@ import java.util.Arrays;
 
 /** What all tests use: comparing answers, feeding texts, and looking at a whole object at once. */
 final class Check {
+    /** So many calls answers() makes; an object is promised 512 in all. */
+    static final int ANSWERS = 5 + 5 + 3 * 32;
+
     private static int wrong = 0;
     private static int looked = 0;
 
@@ -21,34 +24,13 @@ final class Check {
         same(what, got ? 1 : 0, want ? 1 : 0);
     }
 
-    /** That the call throws exactly this exception, and changes nothing that can be seen. */
-    static void refused(String what, ScanChart x, Class<?> due, Runnable call) {
-        long[] before = answers(x);
-        Class<?> got = null;
-        try {
-            call.run();
-        } catch (RuntimeException e) {
-            got = e.getClass();
-        }
-        same(what + " throws " + got + ", due is " + due, got == due, true);
-        unchanged(what, x, before);
-    }
-
-    static void refusedIndex(String what, ScanChart x, Runnable call) {
-        refused(what, x, IndexOutOfBoundsException.class, call);
-    }
-
-    static void refusedArgument(String what, ScanChart x, Runnable call) {
-        refused(what, x, IllegalArgumentException.class, call);
-    }
-
     static void unchanged(String what, ScanChart x, long[] before) {
         same(what + " changes nothing", Arrays.equals(before, answers(x)), true);
     }
 
     /** All that an object answers without being changed by it. */
     static long[] answers(ScanChart x) {
-        long[] all = new long[6 + 5 + 32 + 32 + 32];
+        long[] all = new long[ANSWERS];
         int k = 0;
         all[k++] = x.fault();
         all[k++] = x.place();

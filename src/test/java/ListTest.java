@@ -243,8 +243,6 @@ public final class ListTest {
         Check.unchanged("scan when stopped", x, was);
         Check.same("run when stopped", x.run(5, 5), 0);
         Check.unchanged("run when stopped", x, was);
-        Check.refusedArgument("scan when stopped", x, () -> x.scan(-1));
-        Check.refusedArgument("run when stopped", x, () -> x.run(101, 1));
     }
 
     private static void stopByLength() {

@@ -14,6 +14,10 @@ public final class ModelTest {
     private static final int[] STOPS = new int[4];
     private static int fired;
     private static String history = "";
+    // How many calls the run's object has had: no more than are promised; so many compareAll() makes.
+    private static int calls;
+    private static final int MOST_CALLS = 512;
+    private static final int ALL = 5 + 2 * 32 + 1 + 3;
 
     public static void main(String[] args) {
         int runs = args.length > 0 ? Integer.parseInt(args[0]) : 6000;
@@ -158,12 +162,21 @@ public final class ModelTest {
         ScanChart x = new ScanChart();
         Model m = new Model();
         history = "";
-        for (int round = 1 + next(2); round > 0; round--) {
+        calls = 0;
+        reload(x, m);
+        someCalls(x, m);
+        if (next(2) == 0 && calls + 120 + 2 * ALL <= MOST_CALLS) {
             reload(x, m);
-            for (int k = next(60); k > 0; k--) {
-                call(x, m);
-            }
-            compareAll(x, m);
+            someCalls(x, m);
+        }
+        compareAll(x, m);
+        Check.same("calls of one object beyond the promised", calls > MOST_CALLS, false);
+    }
+
+    /** Some calls, as long as there are enough left to compare all in the end. */
+    private static void someCalls(ScanChart x, Model m) {
+        for (int k = next(60); k > 0 && calls + 3 + ALL <= MOST_CALLS; k--) {
+            call(x, m);
         }
     }
 
@@ -174,7 +187,7 @@ public final class ModelTest {
         String text = spoiled(text());
         history = history + "\n  " + text;
         for (int i = 0; i < text.length();) {
-            int n = Math.min(1 + next(8), text.length() - i);
+            int n = Math.min(next(3) == 0 ? 1 + next(8) : 8, text.length() - i);
             long piece = 0;
             for (int k = 0; k < 8; k++) {
                 piece |= (long) (k < n ? text.charAt(i + k) : next(256)) << 8 * k;
@@ -184,7 +197,7 @@ public final class ModelTest {
         }
         int got = load(x, m);
         loads++;
-        FAULTS[x.fault()]++;
+        FAULTS[m.fault()]++;
         good += got >= 0 ? 1 : 0;
     }
 
@@ -194,7 +207,7 @@ public final class ModelTest {
         say("load", got, m.load());
         say("fault", x.fault(), m.fault());
         say("place", x.place(), m.place());
-        compareAll(x, m);
+        compareIfEnoughLeft(x, m);
         return got;
     }
 
@@ -206,13 +219,15 @@ public final class ModelTest {
             boolean is = next(2) == 0;
             x.input(i, is);
             m.input(i, is);
+            calls++;
             history = history + " " + (is ? "+" : "-") + i;
         } else if (kind < 8) {
             history = history + " s" + ticks;
             int got = x.scan(ticks);
             say("scan", got, m.scan(ticks));
             STOPS[Math.max(0, got)]++;
-            fired += x.fired();
+            say("fired", x.fired(), m.fired());
+            fired += m.fired();
         } else if (kind == 8) {
             int n = next(6);
             history = history + " r" + n + "*" + ticks;
@@ -221,11 +236,18 @@ public final class ModelTest {
             history = history + " reset";
             x.reset();
             m.reset();
-            compareAll(x, m);
+            calls++;
+            compareIfEnoughLeft(x, m);
         } else if (next(6) == 0) {
             history = history + " load";
             load(x, m);
         } else {
+            compareIfEnoughLeft(x, m);
+        }
+    }
+
+    private static void compareIfEnoughLeft(ScanChart x, Model m) {
+        if (calls + 3 + 2 * ALL <= MOST_CALLS) {
             compareAll(x, m);
         }
     }
@@ -236,15 +258,18 @@ public final class ModelTest {
         }
         for (int i = 0; i < 32; i++) {
             say("word " + i, x.word(i), m.word(i));
-            say("output " + i, x.output(i) ? 1 : 0, m.output(i) ? 1 : 0);
             say("block " + i % 8 + " " + i / 8, x.block(i % 8, i / 8), m.block(i % 8, i / 8));
         }
+        int output = next(32);
+        say("output " + output, x.output(output) ? 1 : 0, m.output(output) ? 1 : 0);
         say("done", x.done(), m.done());
         say("fired", x.fired(), m.fired());
         say("time", x.time(), m.time());
     }
 
+    /** Compares the answers of one call. */
     private static void say(String what, long got, long due) {
+        calls++;
         Check.same(got == due ? what : what + " in" + history, got, due);
     }
 }

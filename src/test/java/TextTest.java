@@ -4,7 +4,6 @@ public final class TextTest {
         lowestBytesFirst();
         onlySoManyBytes();
         upTo700();
-        wrongLengths();
         wipeEmpties();
         feedLeavesTheProgram();
         Check.end("TextTest");
@@ -47,20 +46,6 @@ public final class TextTest {
         Check.same("load", x.load(), 0);
         Check.same("wipe", x.wipe(), 700);
         Check.same("feed", x.feed(1, 0), 1);
-    }
-
-    private static void wrongLengths() {
-        ScanChart x = new ScanChart();
-        Check.feed(x, Check.times(700, ";"));
-        int[] wrong = {0, -1, 9, 10, Integer.MIN_VALUE, Integer.MAX_VALUE, 701};
-        for (int n : wrong) {
-            Check.refusedArgument("feed " + n, x, () -> x.feed(n, 0x3b));
-        }
-        Check.same("wipe", x.wipe(), 700);
-        for (int n : wrong) {
-            Check.refusedArgument("feed " + n, x, () -> x.feed(n, 0x3b));
-        }
-        Check.same("wipe", x.wipe(), 0);
     }
 
     private static void wipeEmpties() {
