@@ -7,12 +7,15 @@ public final class BlockTest {
         delayOffWithOtherNumbers();
         pulse();
         pulseWithOtherNumbers();
+        timersAtTheirNumbers();
         kindsHaveTheirOwnPast();
         skippedTimers();
         timersForgetWithReset();
         countUp();
         countDown();
         countersApart();
+        countersAtTheirNumbers();
+        countersBackFromTheirEnds();
         clear();
         edges();
         blocksForgetWithReset();
@@ -175,6 +178,60 @@ public final class BlockTest {
         Check.same("no pulse begins while x stays", y.block(0, 0), 0);
     }
 
+    /** One tick before p, at p, and above it, for the numbers at both ends of their range and between. */
+    private static void timersAtTheirNumbers() {
+        int[] numbers = {1, 2, 50, 999999, 1000000};
+        for (int p : numbers) {
+            ScanChart on = Check.loaded("LD I0; TON T7 " + p + "; ST W0;");
+            timer(on, 7, true, 0, 0, 0);
+            timer(on, 7, true, p - 1, 0, p - 1);
+            timer(on, 7, true, 0, 0, p - 1);
+            timer(on, 7, true, 1, 1, p);
+            timer(on, 7, true, 0, 1, p);
+            timer(on, 7, true, 1, 1, p);
+            timer(on, 7, true, 1000000, 1, p);
+            timer(on, 7, false, 0, 0, 0);
+            timer(on, 7, true, 0, 0, 0);
+            timer(on, 7, true, p, 1, p);
+            ScanChart off = Check.loaded("LD I0; TOF T7 " + p + "; ST W0;");
+            timer(off, 7, false, p, 0, 0);
+            timer(off, 7, true, 0, 1, 0);
+            timer(off, 7, true, p, 1, 0);
+            timer(off, 7, false, p, 1, 0);
+            timer(off, 7, false, p - 1, 1, p - 1);
+            timer(off, 7, false, 1, 0, p);
+            timer(off, 7, false, 1, 0, p);
+            timer(off, 7, false, 1000000, 0, p);
+            timer(off, 7, true, 1, 1, 0);
+            timer(off, 7, false, 0, 1, 0);
+            timer(off, 7, false, p, 0, p);
+            ScanChart pulse = Check.loaded("LD I0; TP T7 " + p + "; ST W0;");
+            timer(pulse, 7, true, 0, 1, 0);
+            timer(pulse, 7, false, p - 1, 1, p - 1);
+            timer(pulse, 7, true, 0, 1, p - 1);
+            timer(pulse, 7, true, 1, 0, p);
+            timer(pulse, 7, true, 1000000, 0, p);
+            timer(pulse, 7, false, 0, 0, 0);
+            timer(pulse, 7, false, 0, 0, 0);
+            timer(pulse, 7, true, 0, 1, 0);
+            timer(pulse, 7, false, p, 0, 0);
+            timer(pulse, 7, true, 0, 1, 0);
+        }
+        ScanChart none = Check.loaded("LD I0; TOF T0 0; ST W0; LD I0; TON T1 0; ST W1; LD I0; TP T2 0; ST W2;");
+        int[] in = {0, 1, 1, 0, 0, 1, 0};
+        for (int k = 0; k < in.length; k++) {
+            none.input(0, in[k] == 1);
+            none.scan(k % 2 == 0 ? 0 : 1000000);
+            Check.same("TOF of 0 at " + k, none.block(0, 0), in[k]);
+            Check.same("TON of 0 at " + k, none.block(1, 0), in[k]);
+            Check.same("TP of 0 at " + k, none.block(2, 0), 0);
+            for (int i = 0; i < 3; i++) {
+                Check.same("TE" + i + " of 0 at " + k, none.block(i, 1), 0);
+                Check.same("W" + i + " of 0 at " + k, none.word(i), i == 2 ? 0 : in[k]);
+            }
+        }
+    }
+
     private static void kindsHaveTheirOwnPast() {
         ScanChart x = Check.loaded("LD I0; TON T0 5; ST W1; LD I1; TOF T0 5; ST W2; LD I2; TP T0 5; ST W3;");
         x.input(0, true);
@@ -333,6 +390,76 @@ public final class BlockTest {
         Check.same("CV", x.word(0), 0);
         Check.same("C is 1 by CTD", x.bits(2), 6);
         Check.same("another counter", x.block(3, 3), 0);
+    }
+
+    /** C is 1 from the number on with CTU, and up to 0 with CTD. */
+    private static void countersAtTheirNumbers() {
+        int[] numbers = {0, 1, 2, 3, 32766, 32767};
+        for (int p : numbers) {
+            ScanChart x = Check.loaded("LD I0; CTU C0 " + p + "; ST W0; LD CV0; ST W1;");
+            for (int k = 0; k <= 4; k++) {
+                counter(x, 0, false, k >= p ? 1 : 0, k);
+                counter(x, 0, true, k + 1 >= p ? 1 : 0, k + 1);
+            }
+        }
+        for (int p : new int[] {0, 32767}) {
+            ScanChart x = Check.loaded("LD I1; CTU C0 0; LD I0; CTD C0 " + p + "; ST W0;");
+            for (int k = 0; k < 2; k++) {
+                x.input(1, true);
+                x.scan(1);
+                x.input(1, false);
+                x.scan(1);
+            }
+            counter(x, 0, false, 0, 2);
+            counter(x, 0, true, 0, 1);
+            counter(x, 0, false, 0, 1);
+            counter(x, 0, true, 1, 0);
+            counter(x, 0, false, 1, 0);
+            counter(x, 0, true, 1, -1);
+        }
+        ScanChart y = Check.loaded("LD I1; CTD C0 0; LD I0; CTU C0 0; ST W0;");
+        y.input(1, true);
+        y.scan(1);
+        counter(y, 0, false, 0, -1);
+        counter(y, 0, true, 1, 0);
+    }
+
+    /** A counter at an end stays there, but not for good: each way back is one. */
+    private static void countersBackFromTheirEnds() {
+        String up = "CTU C0 32767;";
+        String down = "CTD C0 0;";
+        for (int way = 0; way < 2; way++) {
+            String to = way == 0 ? up : down;
+            String back = way == 0 ? down : up;
+            int end = way == 0 ? 32767 : -32768;
+            int step = way == 0 ? -1 : 1;
+            ScanChart x = Check.loaded("LD I1; JMPC L1; L0: LD 1;" + to + "LD 0;" + to + "LD W1; ADD 1; ST W1; LT 45; JMPC L0; "
+                    + "LD 0; ST W1; RET; L1: LD I3;" + back + "LD I2;" + to + "ST W0;");
+            for (int k = 1; k <= 7; k++) {
+                x.run(100, 0);
+            }
+            x.run(28, 0);
+            Check.same("seven before the end", x.block(0, 3), -step * 32760);
+            x.input(1, true);
+            for (int k = 1; k <= 12; k++) {
+                x.input(2, true);
+                x.scan(1);
+                x.input(2, false);
+                x.scan(1);
+                int due = way == 0 ? Math.min(end, 32760 + k) : Math.max(end, -32760 - k);
+                Check.same("CV at " + k, x.block(0, 3), due);
+                Check.same("C at " + k, x.block(0, 2), way == 1 || k >= 7 ? 1 : 0);
+                Check.same("the result at " + k, x.word(0), way == 1 || k >= 7 ? 1 : 0);
+            }
+            for (int k = 1; k <= 3; k++) {
+                x.input(3, true);
+                x.scan(1);
+                Check.same("C on the way back", x.block(0, 2), way);
+                x.input(3, false);
+                x.scan(1);
+                Check.same("CV on the way back", x.block(0, 3), end + step * k);
+            }
+        }
     }
 
     private static void clear() {

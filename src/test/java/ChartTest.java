@@ -11,6 +11,7 @@ public final class ChartTest {
         actionsSAndR();
         actionsAndTheList();
         firedCounts();
+        allFire();
         Check.end("ChartTest");
     }
 
@@ -159,6 +160,50 @@ public final class ChartTest {
         Check.same("the list saw X0", y.word(0), 1);
         Check.same("the list didn't see X1", y.word(1), 0);
         Check.same("step 0 is left, so Q7 stays", y.output(7), true);
+    }
+
+    /** Sixteen GO's at once, and what three names on each side do, told once, twice, three times, and on both sides. */
+    private static void allFire() {
+        StringBuilder text = new StringBuilder();
+        for (int k = 0; k < 16; k++) {
+            text.append("STEP ").append(k).append(';');
+        }
+        for (int k = 0; k < 8; k++) {
+            text.append("GO ").append(k).append(" TO ").append(k).append(' ').append(2 * k + 1).append(' ')
+                    .append(Math.min(15, 2 * k + 2)).append(';');
+        }
+        for (int k = 8; k < 16; k++) {
+            text.append("GO ").append(k).append(" TO ").append(k).append(" IFN I0;");
+        }
+        ScanChart x = Check.loaded(text.toString());
+        int[] fired = {1, 3, 7, 15, 16, 16};
+        int[] steps = {7, 0x7f, 0x7fff, 0xffff, 0xffff, 0xffff};
+        for (int k = 0; k < fired.length; k++) {
+            scans(x, steps[k], fired[k]);
+        }
+        x.input(0, true);
+        scans(x, 0xffff, 8);
+        String head = "STEP 0;STEP 1;STEP 2;STEP 3;";
+        String[] goes = {"GO 0 TO 1", "GO 0 0 TO 1", "GO 0 0 0 TO 1 1", "GO 0 TO 1 1 1", "GO 0 TO 0", "GO 0 TO 0 0 0",
+            "GO 0 0 TO 0 1", "GO 0 TO 1 0 1", "GO 0 TO 1 2 3", "GO 0 1 TO 2", "GO 1 TO 0", "GO 0 1 0 TO 0"};
+        int[] due = {2, 2, 2, 2, 1, 1, 3, 3, 14, 1, 1, 1};
+        for (int k = 0; k < goes.length; k++) {
+            scans(Check.loaded(head + goes[k] + ";"), due[k], k < 9 ? 1 : 0);
+            scans(Check.loaded(head + goes[k] + " IF 1;"), due[k], k < 9 ? 1 : 0);
+            scans(Check.loaded(head + goes[k] + " IF 0;"), 1, 0);
+            scans(Check.loaded(head + goes[k] + " IFN 0;"), due[k], k < 9 ? 1 : 0);
+            scans(Check.loaded(head + goes[k] + " IFN -1;"), 1, 0);
+        }
+        // A step that was left and is active again in the end was left all the same.
+        ScanChart y = Check.loaded(head + "GO 0 TO 0 1;GO 0 0 TO 2;GO 0 1 TO 3;GO 1 TO 1;");
+        scans(y, 3, 1);
+        scans(y, 3, 2);
+        // One that is entered by a GO before wasn't active at the scan's begin.
+        ScanChart z = Check.loaded(head + "GO 0 TO 1;GO 1 TO 2;GO 0 1 TO 3;GO 2 TO 3;");
+        scans(z, 2, 1);
+        scans(z, 4, 1);
+        scans(z, 8, 1);
+        scans(z, 8, 0);
     }
 
     private static void firedCounts() {

@@ -12,9 +12,12 @@ public final class ListTest {
         comparing();
         brackets();
         jumping();
+        jumpingBehindTheLast();
         returning();
         stopByZero();
         stopByLength();
+        stopsLastUntilReset();
+        allEighty();
         Check.end("ListTest");
     }
 
@@ -128,6 +131,23 @@ public final class ListTest {
         result("LD 7; MOD -3;", 1);
         result("LD -2147483648; MOD -1;", 0);
         result("LD 0; DIV 5;", 0);
+        result("LD 0; MOD 5;", 0);
+        result("LD 2147483647; DIV -1;", -MAX);
+        result("LD -2147483648; DIV 1;", MIN);
+        result("LD -2147483648; MOD 2147483647;", -1);
+        result("LD -2147483648; DIV 2147483647;", -1);
+        result("LD 2147483647; DIV -2147483648;", 0);
+        result("LD 2147483647; MOD -2147483648;", MAX);
+        result("LD -2147483648; MUL -1;", MIN);
+        result("LD -2147483648; MUL -2147483648;", 0);
+        result("LD -2147483648; ADD -2147483648;", 0);
+        result("LD -2147483648; ADD -1;", MAX);
+        result("LD 2147483647; SUB -1;", MIN);
+        result("LD 2147483647; SUB -2147483648;", -1);
+        result("LD 2147483647; ADD 2147483647;", -2);
+        result("LD -2147483648; SUB(; LD 1; );", MAX);
+        result("LD -2147483648; DIV(; LD -1; );", MIN);
+        result("LD -2147483648; MOD(; LD -1; );", 0);
     }
 
     private static void comparing() {
@@ -198,6 +218,31 @@ public final class ListTest {
         Check.same("the chart goes on behind a jump", y.bits(4), 128);
     }
 
+    /** "On from the label (behind the last one: the list ends)", with each jump and at each end of a text. */
+    private static void jumpingBehindTheLast() {
+        String[] ends = {"L31:;", "L31: ;", "L31:;;;", "L31: STEP 0 N Q3;", "L31: STEP 0 N Q3; GO 0 TO 0;", "STEP 0 N Q3; L31:;"};
+        String[] jumps = {"LD 5; ST W0; JMP L31;", "LD 5; ST W0; JMPC L31;", "LD 5; ST W0; LD 0; JMPCN L31;"};
+        for (String end : ends) {
+            for (String jump : jumps) {
+                ScanChart x = Check.loaded(jump + "LD 6; ST W0; LD 1; DIV 0;" + end);
+                Check.same(jump + end, x.scan(1), 0);
+                Check.same(jump + end, x.word(0), 5);
+                Check.same(jump + end, x.done(), jump.contains("CN") ? 4 : 3);
+                Check.same(jump + end, x.output(3), end.contains("N Q3"));
+                Check.same(jump + end, x.fired(), end.contains("GO") ? 1 : 0);
+            }
+        }
+        // One that leads to the last instruction doesn't end the list yet.
+        result("LD 5; JMP L31; LD 6; L31:;", 5);
+        ScanChart y = Check.loaded("LD 5; JMP L31; LD 6; L31: ST W0;");
+        y.scan(1);
+        Check.same("W0", y.word(0), 5);
+        Check.same("done", y.done(), 3);
+        ScanChart z = Check.loaded("LD 5; JMP L0; L0:;");
+        Check.same("scan", z.scan(1), 0);
+        Check.same("done", z.done(), 2);
+    }
+
     private static void returning() {
         String[] words = {"RET", "RETC", "RETCN"};
         int[] ofZero = {1, 0, 1};
@@ -262,6 +307,78 @@ public final class ListTest {
         exactly("LD 124; ST W1; NOT; L0: LD W1; SUB 1; ST W1; JMPC L0; JMP L1; LD 1; L1:;", 0, 500);
         exactly("LD 124; ST W1; NOT; L0: LD W1; SUB 1; ST W1; JMPC L0; JMP L1; L1: LD 1;", 3, 500);
         exactly("L7: ; L8: JMP L7;", 3, 500);
+    }
+
+    /** "With a STOP the scan ends there: chart and outputs stay, and no more scans are done until reset()", or a load. */
+    private static void stopsLastUntilReset() {
+        String[] ways = {"DIV I9;", "MOD I9;", "JMPCN L0; LD 1; DIV(; LD I9; );", "LDN I9; JMPCN L1; L0: JMP L0; L1:;"};
+        int[] answers = {2, 2, 2, 3};
+        for (int k = 0; k < ways.length; k++) {
+            String labels = ways[k].contains("L0:") ? "" : "L0:;";
+            ScanChart x = Check.loaded("LD W1; ADD 1; ST W1; ST Q2; TON T0 3; CTU C0 1; LD 7; " + ways[k] + labels
+                    + "STEP 0 N Q0; STEP 1 S Q1; GO 0 TO 1 IF I5;");
+            x.input(9, true);
+            Check.same("scan", x.scan(4), 0);
+            Check.same("outputs", x.bits(4), 1 | 4);
+            x.input(9, false);
+            x.input(5, true);
+            Check.same(ways[k], x.scan(4), answers[k]);
+            Check.same("outputs stay", x.bits(4), 1 | 4);
+            Check.same("the chart stays", x.bits(3), 1);
+            Check.same("what the list did stays", x.word(1), 2);
+            Check.same("what the list did stays", x.block(0, 1), 3);
+            Check.same("fired", x.fired(), 0);
+            Check.same("time", x.time(), 8);
+            int done = x.done();
+            // Neither inputs, nor questions, nor the text undo the stop.
+            x.input(9, true);
+            x.wipe();
+            Check.feed(x, "LD 1;");
+            Check.same("scan", x.scan(4), -1);
+            Check.same("run", x.run(3, 4), 0);
+            Check.same("run of none", x.run(0, 4), 0);
+            Check.same("scan", x.scan(0), -1);
+            Check.same("done", x.done(), done);
+            Check.same("W1", x.word(1), 2);
+            Check.same("time", x.time(), 8);
+            Check.same("I", x.bits(0), 1 << 5);
+            x.reset();
+            Check.same("scan behind a reset", x.scan(4), 0);
+            Check.same("W1", x.word(1), 1);
+            Check.same("time", x.time(), 4);
+            Check.same("X", x.bits(3), 2);
+            Check.same("outputs", x.bits(4), 2 | 4);
+            Check.same("fired", x.fired(), 1);
+            x.input(9, false);
+            Check.same("a run up to the stop", x.run(100, 1), 0);
+            Check.same("scan", x.scan(1), -1);
+            Check.same("load", x.load(), 1);
+            Check.same("scan behind a load", x.scan(1), 0);
+            Check.same("done", x.done(), 1);
+        }
+    }
+
+    /** Eighty instructions, sixteen GO's and all steps in one text; each counts, and a hundred scans of them. */
+    private static void allEighty() {
+        StringBuilder text = new StringBuilder("LD W0;");
+        for (int k = 0; k < 78; k++) {
+            text.append("NOT;");
+        }
+        text.append("ST W0;");
+        for (int k = 0; k < 16; k++) {
+            text.append("STEP ").append(k).append(';').append("GO 0 TO ").append(15 - k).append(';');
+        }
+        ScanChart x = Check.loaded(text.toString());
+        Check.same("load", x.load(), 80);
+        Check.same("scan", x.scan(0), 0);
+        Check.same("done", x.done(), 80);
+        Check.same("fired", x.fired(), 1);
+        Check.same("X", x.bits(3), 1 << 15);
+        Check.same("run", x.run(100, 0), 100);
+        Check.same("done", x.done(), 80);
+        ScanChart y = Check.loaded("LD W0;" + Check.times(78, "ADD 1;") + "ST W0;");
+        Check.same("run", y.run(100, 0), 100);
+        Check.same("W0", y.word(0), 7800);
     }
 
     private static void exactly(String text, int answer, int done) {

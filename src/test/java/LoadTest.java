@@ -5,7 +5,7 @@ public final class LoadTest {
     private static final String[] OPERANDS = {"I0", "I31", "Q0", "Q31", "M0", "M31", "W0", "W31", "T0", "T7",
         "TE0", "TE7", "C0", "C7", "CV0", "CV7", "X0", "X15", "I07", "X09", "TE01", "0", "7", "-1", "-0", "007",
         "2147483647", "-2147483648", "00000000000000000000002147483647", "-0000000000000000000002147483648"};
-    private static final String[] OUT_OF_RANGE = {"I32", "Q32", "M99", "W32", "T8", "TE8", "C8", "CV10", "X16",
+    private static final String[] OUT_OF_RANGE = {"I32", "Q32", "M32", "M99", "W32", "T8", "TE8", "C8", "CV8", "CV10", "X16",
         "I007", "X000", "TE000", "I4294967296", "2147483648", "-2147483649", "18446744073709551616",
         "-99999999999999999999999999999999"};
     private static final String[] NO_OPERANDS = {"I", "Q", "TE", "-", "--1", "1-", "+1", "i0", "L0", "E0", "Z0",
@@ -13,6 +13,9 @@ public final class LoadTest {
 
     public static void main(String[] args) {
         blanksAndLines();
+        everyByte();
+        fullTexts();
+        numbers();
         labels();
         operands();
         stores();
@@ -25,6 +28,7 @@ public final class LoadTest {
         bracketFaults();
         missing();
         firstFault();
+        leastOfSeveral();
         faultChangesNothing();
         loadResets();
         loadForgetsTheLastScan();
@@ -80,6 +84,102 @@ public final class LoadTest {
         fault(1, "^IF;");
         fault(1, "^N Q0;");
         fault(1, ";;^x;");
+    }
+
+    /** "Bytes not above 32 are blanks"; ; ends a line, and all others are parts of words. */
+    private static void everyByte() {
+        for (int b = 0; b < 256; b++) {
+            String sign = String.valueOf((char) b);
+            boolean blank = b <= 32;
+            boolean figure = b >= '0' && b <= '9';
+            if (blank) {
+                fine("LD" + sign + "1;", 1);
+                fine(sign + "LD" + sign + sign + "1" + sign + ";" + sign + "L0:" + sign + "NOT" + sign + ";" + sign, 2);
+                fault(1, "^L1" + sign + ":;");
+                fault(1, "LD 1" + sign + "^");
+                fault(1, "LD I1" + sign + "^1;");
+            } else if (b == ';') {
+                fault(1, "LD^;1;");
+                fine("LD 1;;", 1);
+            } else {
+                fault(1, "^LD" + sign + "1;");
+                fault(1, "^" + sign + "LD 1;");
+                // These three are words a line may begin with.
+                fault(b == ')' ? 5 : 1, b == 'R' || b == 'S' ? "LD 1;" + sign + "^" : "LD 1;^" + sign);
+            }
+            if (figure) {
+                fine("LD 1" + sign + ";LD I1" + sign + ";L1" + sign + ":;TON T0 1" + sign + ";", 3);
+            } else if (!blank && b != ';') {
+                fault(1, "LD ^1" + sign + ";");
+                fault(1, "LD ^1" + sign + "1;");
+                fault(1, "LD ^I1" + sign + ";");
+                fault(1, "TON T0 ^1" + sign + ";");
+                fault(1, "^L1" + sign + ":;");
+                fault(1, "STEP ^1" + sign + ";");
+                fault(1, "STEP 0; GO 0 TO 0 ^0" + sign + ";");
+            }
+            if (!figure && b != '-') {
+                fault(1, blank ? "LD " + sign + "^;" : b == ';' ? "LD ^;;" : "LD ^" + sign + ";");
+            }
+        }
+    }
+
+    /** Faults up to the last of 700 bytes, and behind it. */
+    private static void fullTexts() {
+        fine(Check.times(700, " "), 0);
+        fine(Check.times(700, ";"), 0);
+        fine(Check.times(694, "\n") + "LD 1; ", 1);
+        fine(Check.times(695, ";") + "LD 1;", 1);
+        fine(Check.times(696, ";") + "NOT;", 1);
+        fault(1, Check.times(697, ";") + "L0:^");
+        fine(Check.times(696, ";") + "L0:;", 0);
+        fault(1, Check.times(699, ";") + "^x");
+        fault(1, Check.times(699, " ") + "^x");
+        fault(1, "^" + Check.times(700, "x"));
+        fault(1, Check.times(697, " ") + "LD^;");
+        fault(1, Check.times(698, " ") + "LD^");
+        fault(1, Check.times(697, ";") + "NOT^");
+        fault(1, Check.times(693, ";") + "LD 1   ^");
+        fault(5, Check.times(695, ";") + "AND(;^");
+        fault(5, Check.times(698, ";") + "^);");
+        fault(2, Check.times(693, ";") + "LD ^I32;");
+        fault(2, "LD ^I" + Check.times(695, "0") + ";");
+        fault(2, "^L" + Check.times(697, "0") + ":;");
+        fault(4, "L0:;" + Check.times(692, " ") + "^L0:;");
+        fault(6, Check.times(693, ";") + "JMP ^L0;");
+    }
+
+    /** "Others any number of them": the figures of numbers, up to the whole text; and no row of them wraps. */
+    private static void numbers() {
+        fine("LD " + Check.times(695, "0") + "7;", 1);
+        Check.same("W0", Check.word0("LD " + Check.times(680, "0") + "2147483647;ST W0;"), Integer.MAX_VALUE);
+        Check.same("W0", Check.word0("LD -" + Check.times(679, "0") + "2147483648;ST W0;"), Integer.MIN_VALUE);
+        Check.same("W0", Check.word0("LD -" + Check.times(679, "0") + "1;ST W0;"), -1);
+        fault(2, "LD ^" + Check.times(680, "0") + "2147483648;");
+        fault(2, "LD ^-" + Check.times(680, "0") + "2147483649;");
+        fault(2, "LD ^" + Check.times(696, "9") + ";");
+        fault(2, "LD ^-" + Check.times(695, "9") + ";");
+        fault(2, "LD ^1" + Check.times(695, "0") + ";");
+        fault(2, "STEP ^" + Check.times(694, "0") + ";");
+        // What these are when cut off to 32 or 64 bits would be allowed.
+        String[] wraps = {"4294967296", "4294967301", "8589934592", "18446744073709551616", "18446744073709551621",
+            "36893488147419103232", "340282366920938463463374607431768211456"};
+        for (String number : wraps) {
+            fault(2, "LD ^" + number + ";");
+            fault(2, "LD ^-" + number + ";");
+            fault(2, "TON T0 ^" + number + ";");
+            fault(2, "TOF T0 ^" + number + ";");
+            fault(2, "TP T0 ^" + number + ";");
+            fault(2, "CTU C0 ^" + number + ";");
+            fault(2, "CTD C0 ^" + number + ";");
+            fault(2, "STEP 0; GO 0 TO 0 IF ^" + number + ";");
+        }
+        fine("TON T0 1000000; TOF T0 1000000; TP T0 1000000; CTU C0 32767; CTD C0 32767;", 5);
+        fault(2, "TP T0 ^1000001;");
+        fault(2, "CTD C0 ^32768;");
+        fine("STEP 0; GO 0 TO 0 IF 2147483647; GO 0 TO 0 IF -2147483648;", 0);
+        fault(2, "STEP 0; GO 0 TO 0 IF ^2147483648;");
+        fault(2, "STEP 0; GO 0 TO 0 IFN ^-2147483649;");
     }
 
     private static void labels() {
@@ -371,6 +471,62 @@ public final class LoadTest {
         fault(5, "JMP L0; ^); LD I32;");
         fault(4, "JMP L1; L0:; ^L0:; );");
         fault(1, "JMP L1; LD 1; LD ^");
+    }
+
+    /** "Of several at one place that with the least number"; of several places the first, whatever the numbers. */
+    private static void leastOfSeveral() {
+        String full = Check.times(80, "NOT;");
+        // 1, though 2 (a number out of its range) would be there as well if the word could come.
+        fault(1, "L0: ^L32: LD 1;");
+        fault(1, "LD 1 ^I99;");
+        fault(1, "ST ^I32;");
+        fault(1, "ST ^99999999999;");
+        fault(1, "S ^W32;");
+        fault(1, "CTU C0 ^-99999999999;");
+        fault(1, "TON ^C8 1;");
+        fault(1, "STEP ^-16;");
+        fault(1, "JMP ^L32:;");
+        fault(1, "NOT ^I32;");
+        // 1 before 3.
+        fault(1, full + "^LD( 1;");
+        fault(1, full + "^L0;");
+        fault(1, full + "L0: ^L1: LD 1;");
+        fault(1, full + "L0: ^x;");
+        fault(1, full + "^ADD((;");
+        // 1 before 4 and 5.
+        fault(1, "L0: ^L0: LD 1;");
+        fault(1, "ADD(; ^JMP( L0;);");
+        fault(1, "ADD(; ^L0 : LD 1;);");
+        fault(1, "ADD(; ^RETX;);");
+        fault(1, "ADD(; LD^");
+        fault(1, Check.times(8, "ADD(;") + "^LD(;");
+        // 2 before 5; 3 before 5, 4 before 5.
+        fault(2, "ADD(; ^L32:;);");
+        fault(2, "ADD(; ^L000:;);");
+        fault(3, full + "^) 1;");
+        fault(3, Check.times(79, "NOT;") + "ADD(;^RET;");
+        fault(3, Check.times(72, "NOT;") + Check.times(8, "ADD(;") + "^ADD(;");
+        fault(3, "STEP 0;" + Check.times(16, "GO 0 TO 0;") + "ADD(;^GO 0 TO 0;");
+        fault(4, "L7:;ADD(;^L07:;);");
+        // The first place, though a later one has a lesser number, in one line or in two.
+        fault(2, "LD ^I32 x;");
+        fault(2, "^L32: x;");
+        fault(2, "TON ^T8 -1;");
+        fault(3, full + "^LD x;");
+        fault(3, full + "^NOT; x;");
+        fault(4, "L0:;^L0: x;");
+        fault(4, "STEP 1;STEP ^1 x;");
+        fault(5, "^) x;");
+        fault(5, "ADD(; ^RET x;);");
+        fault(5, "ADD(; ^STEP 16;);");
+        fault(5, "STEP 1;ADD(; ^STEP 1;);");
+        fault(5, "ADD(; ^GO 16 TO 0;);");
+        fault(5, "ADD(; ^JMP L32;);");
+        fault(5, "STEP 0; GO 0 TO 7; JMP L9; ADD(;  ^");
+        fault(6, "JMP ^L9; STEP 0; GO 0 TO 7;");
+        fault(6, "STEP 0; GO 0 TO ^7; JMP L9;");
+        fault(6, "STEP 3; JMP L1; GO 3 3 ^4 TO 5 6 7; L1:; JMP L2;");
+        fault(6, "STEP 3; GO 3 TO 3 ^5; GO 5 TO 6;");
     }
 
     private static void faultChangesNothing() {
