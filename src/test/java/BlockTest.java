@@ -10,6 +10,8 @@ public final class BlockTest {
         timersAtTheirNumbers();
         kindsHaveTheirOwnPast();
         skippedTimers();
+        skippedKnowNothing();
+        severalInOneScan();
         timersForgetWithReset();
         countUp();
         countDown();
@@ -274,6 +276,91 @@ public final class BlockTest {
         x.scan(1);
         Check.same("the time went by all the same", x.word(0), 10);
         Check.same("Q0", x.output(0), true);
+    }
+
+    /** What the result was while a timer, counter or edge was not done, it never knew. */
+    private static void skippedKnowNothing() {
+        ScanChart x = Check.loaded("LD I1;JMPC L0;LD I0;TON T0 9;LD I0;TOF T1 9;LD I0;TP T2 9;LD I0;CTU C0 1;LD I0;CTD C1 0;"
+                + "LD I0;RISE E0;ST W0;LD I0;FALL E0;ST W1;L0:;");
+        x.input(0, true);
+        x.scan(1);
+        x.scan(9);
+        skips(x, false);
+        x.scan(1);
+        int[] due = {1, 9, 1, 0, 0, 9, 1, -1, 0, 0};
+        look("x fell and rose unseen", x, due);
+        x.input(0, false);
+        x.scan(1);
+        look("x fell", x, new int[] {0, 0, 1, 0, 0, 0, 1, -1, 0, 1});
+        x.scan(3);
+        look("x fell, 3 later", x, new int[] {0, 0, 1, 3, 0, 0, 1, -1, 0, 0});
+        skips(x, true);
+        x.scan(1);
+        look("x rose and fell unseen", x, new int[] {0, 0, 1, 8, 0, 0, 1, -1, 0, 0});
+        x.input(1, true);
+        x.input(0, true);
+        x.scan(100);
+        x.scan(100);
+        x.input(1, false);
+        x.scan(1);
+        look("x rose at some time", x, new int[] {0, 0, 1, 0, 1, 0, 2, -2, 1, 0});
+        x.input(1, true);
+        x.input(0, false);
+        x.scan(5);
+        look("nothing was done", x, new int[] {0, 0, 1, 0, 1, 0, 2, -2, 1, 0});
+        x.scan(5);
+        x.input(1, false);
+        x.scan(2);
+        look("x fell at some time", x, new int[] {0, 0, 1, 0, 0, 0, 2, -2, 0, 1});
+    }
+
+    /** Two scans in which nothing is done but that x is otherwise in the first one. */
+    private static void skips(ScanChart x, boolean is) {
+        x.input(1, true);
+        x.input(0, is);
+        x.scan(2);
+        x.input(0, !is);
+        x.scan(2);
+        x.input(1, false);
+    }
+
+    private static void look(String what, ScanChart x, int[] due) {
+        int[] got = {x.block(0, 0), x.block(0, 1), x.block(1, 0), x.block(1, 1), x.block(2, 0), x.block(2, 1), x.block(0, 3),
+            x.block(1, 3), x.word(0), x.word(1)};
+        for (int k = 0; k < due.length; k++) {
+            Check.same(what + ": " + k, got[k], due[k]);
+        }
+    }
+
+    /** Of several instructions of a kind with one timer each is told apart only by its x and its number. */
+    private static void severalInOneScan() {
+        ScanChart pulses = Check.loaded("LD 1;TP T0 5;ST W0;LD TE0;ST W1;LD 0;TP T0 5;ST W2;LD TE0;ST W3;");
+        int[] ticks = {3, 0, 4, 1, 0, 4, 9};
+        int[][] pulse = {{1, 0, 1, 0}, {1, 0, 1, 0}, {1, 4, 1, 4}, {0, 5, 0, 0}, {1, 0, 1, 0}, {1, 4, 1, 4}, {0, 5, 0, 0}};
+        several(pulses, ticks, pulse);
+        ScanChart ons = Check.loaded("LD 1;TON T0 5;ST W0;LD TE0;ST W1;LD 1;TON T0 3;ST W2;LD TE0;ST W3;");
+        several(ons, new int[] {3, 2, 1, 1, 1, 9},
+                new int[][] {{0, 0, 0, 0}, {0, 2, 0, 2}, {0, 3, 1, 3}, {0, 4, 1, 3}, {1, 5, 1, 3}, {1, 5, 1, 3}});
+        ScanChart never = Check.loaded("LD 1;TON T0 5;ST W0;LD TE0;ST W1;LD 0;TON T0 5;ST W2;LD TE0;ST W3;");
+        several(never, new int[] {3, 9, 9}, new int[][] {{0, 0, 0, 0}, {0, 0, 0, 0}, {0, 0, 0, 0}});
+        ScanChart offs = Check.loaded("LD 1;TOF T0 5;ST W0;LD TE0;ST W1;LD 0;TOF T0 5;ST W2;LD TE0;ST W3;");
+        several(offs, new int[] {3, 9, 9}, new int[][] {{1, 0, 1, 0}, {1, 0, 1, 0}, {1, 0, 1, 0}});
+        ScanChart noneOn = Check.loaded("LD 0;TOF T0 5;ST W0;LD TE0;ST W1;LD I0;TOF T0 0;ST W2;LD TE0;ST W3;");
+        several(noneOn, new int[] {3, 9}, new int[][] {{0, 0, 0, 0}, {0, 0, 0, 0}});
+        ScanChart zero = Check.loaded("LD 1;TON T0 0;ST W0;LD TE0;ST W1;LD 1;TON T0 9;ST W2;LD TE0;ST W3;");
+        several(zero, new int[] {3, 4, 5}, new int[][] {{1, 0, 0, 0}, {1, 0, 0, 4}, {1, 0, 1, 9}});
+        // A pulse that is at its end by one number goes on by a larger one, as long as none without x ends it.
+        ScanChart longer = Check.loaded("LD 1;TP T0 0;ST W0;LD TE0;ST W1;LD 0;TP T0 9;ST W2;LD TE0;ST W3;");
+        several(longer, new int[] {3, 4, 5, 0}, new int[][] {{0, 0, 1, 0}, {0, 0, 1, 4}, {0, 0, 0, 0}, {0, 0, 1, 0}});
+    }
+
+    private static void several(ScanChart x, int[] ticks, int[][] due) {
+        for (int k = 0; k < ticks.length; k++) {
+            x.scan(ticks[k]);
+            for (int i = 0; i < 4; i++) {
+                Check.same("W" + i + " at " + k, x.word(i), due[k][i]);
+            }
+        }
     }
 
     private static void timersForgetWithReset() {

@@ -12,6 +12,7 @@ public final class ChartTest {
         actionsAndTheList();
         firedCounts();
         allFire();
+        theSixteenthGo();
         Check.end("ChartTest");
     }
 
@@ -204,6 +205,20 @@ public final class ChartTest {
         scans(z, 4, 1);
         scans(z, 8, 1);
         scans(z, 8, 0);
+    }
+
+    /** The sixteenth GO is looked at like all others, with its cell and its number. */
+    private static void theSixteenthGo() {
+        String before = "STEP 0;STEP 15 N Q31;LD W1;ADD 1;ST W1;" + Check.times(15, "GO 15 TO 0;");
+        String[] conditions = {"IF I31", "IFN I31", "IF M31", "IFN M31", "IF X15", "IFN X15", "IF -1", "IFN -1", "IF 0", "IFN 0",
+            "IF X0", "IF W1", "IFN W1", ""};
+        int[] fires = {1, 0, 0, 1, 0, 1, 1, 0, 0, 1, 1, 1, 0, 1};
+        for (int k = 0; k < conditions.length; k++) {
+            ScanChart x = Check.loaded(before + "GO 0 TO 15 " + conditions[k] + ";");
+            x.input(31, true);
+            scans(x, fires[k] == 1 ? 1 << 15 : 1, fires[k]);
+            Check.same("outputs " + conditions[k], x.bits(4), fires[k] == 1 ? Integer.MIN_VALUE : 0);
+        }
     }
 
     private static void firedCounts() {

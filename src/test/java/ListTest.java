@@ -18,6 +18,7 @@ public final class ListTest {
         stopByLength();
         stopsLastUntilReset();
         allEighty();
+        theEightieth();
         Check.end("ListTest");
     }
 
@@ -379,6 +380,50 @@ public final class ListTest {
         ScanChart y = Check.loaded("LD W0;" + Check.times(78, "ADD 1;") + "ST W0;");
         Check.same("run", y.run(100, 0), 100);
         Check.same("W0", y.word(0), 7800);
+    }
+
+    /** The eightieth instruction is done like all others, with its cell and its number. */
+    private static void theEightieth() {
+        String before = "STEP 0 N Q0;L1: LD W1;ADD 1;ST W1;" + Check.times(75, "NOT;") + "LD W1;";
+        ScanChart x = eighty(before + "ST W31;");
+        x.scan(1);
+        Check.same("ST W31", x.word(31), 1);
+        Check.same("done", x.done(), 80);
+        x = eighty(before + "S M31;");
+        x.scan(1);
+        Check.same("S M31", x.bits(2), Integer.MIN_VALUE);
+        x = eighty(before + "TON T7 1000000;");
+        x.scan(1);
+        x.scan(1000000);
+        Check.same("T7", x.block(7, 0), 1);
+        Check.same("TE7", x.block(7, 1), 1000000);
+        x = eighty(before + "TP T7 9;");
+        x.scan(1);
+        Check.same("T7", x.block(7, 0), 1);
+        x.scan(9);
+        Check.same("T7", x.block(7, 0), 0);
+        Check.same("TE7", x.block(7, 1), 9);
+        x = eighty(before + "CTU C7 2;");
+        x.scan(1);
+        Check.same("C7", x.block(7, 2), 0);
+        Check.same("CV7", x.block(7, 3), 1);
+        x = eighty(before + "JMPC L1;");
+        Check.same("JMPC back", x.scan(1), 3);
+        x = eighty(before + "JMPCN L1;");
+        Check.same("JMPCN, not taken", x.scan(1), 0);
+        x = eighty(before + "DIV W31;");
+        Check.same("DIV by 0", x.scan(1), 2);
+        Check.same("done", x.done(), 79);
+        Check.same("outputs", x.bits(4), 0);
+        x = eighty(before + "DIV -1;");
+        Check.same("DIV", x.scan(1), 0);
+        Check.same("outputs", x.bits(4), 1);
+    }
+
+    private static ScanChart eighty(String text) {
+        ScanChart x = Check.loaded(text);
+        Check.same("load '" + text + "'", x.load(), 80);
+        return x;
     }
 
     private static void exactly(String text, int answer, int done) {
