@@ -9,6 +9,7 @@ public final class BlockTest {
         pulseWithOtherNumbers();
         timersAtTheirNumbers();
         kindsHaveTheirOwnPast();
+        kindsTogetherAsApart();
         skippedTimers();
         skippedKnowNothing();
         severalInOneScan();
@@ -18,6 +19,7 @@ public final class BlockTest {
         countersApart();
         countersAtTheirNumbers();
         countersBackFromTheirEnds();
+        countersRememberAtTheirEnds();
         clear();
         edges();
         blocksForgetWithReset();
@@ -178,6 +180,28 @@ public final class BlockTest {
         Check.same("TE0", y.block(0, 1), 5);
         y.scan(5);
         Check.same("no pulse begins while x stays", y.block(0, 0), 0);
+        // A pulse of 0 is over without x at once, and the next one begins anew.
+        ScanChart z = Check.loaded("LD I1; JMPC L0; LD I0; TP T0 0; ST W0; JMP L1; L0: LD I0; TP T0 9; ST W0; L1:;");
+        timer(z, 0, true, 1, 0, 0);
+        timer(z, 0, false, 1, 0, 0);
+        z.input(1, true);
+        timer(z, 0, false, 4, 0, 0);
+        timer(z, 0, true, 4, 1, 0);
+        timer(z, 0, false, 4, 1, 4);
+        timer(z, 0, true, 5, 0, 9);
+        z.input(1, false);
+        timer(z, 0, true, 5, 0, 0);
+        timer(z, 0, false, 5, 0, 0);
+        z.input(1, true);
+        timer(z, 0, false, 5, 0, 0);
+        // One of 0 that is still going on goes on with the greater number.
+        z.reset();
+        z.input(1, false);
+        timer(z, 0, true, 1, 0, 0);
+        timer(z, 0, true, 4, 0, 0);
+        z.input(1, true);
+        timer(z, 0, true, 2, 1, 6);
+        timer(z, 0, false, 3, 0, 0);
     }
 
     /** One tick before p, at p, and above it, for the numbers at both ends of their range and between. */
@@ -260,6 +284,36 @@ public final class BlockTest {
         Check.same("another timer", x.block(1, 1), 0);
         Check.same("a counter", x.block(0, 3), 0);
         Check.same("a counter's C", x.block(0, 2), 0);
+    }
+
+    /** Three kinds with one timer do as they do with a timer each, whatever their x's are and were. */
+    private static void kindsTogetherAsApart() {
+        String[] timers = {"LD I0; TON T%d 4; ST W0; LD TE%<d; ST W1;", "LD I1; TOF T%d 5; ST W2; LD TE%<d; ST W3;",
+            "LD I2; TP T%d 3; ST W4; LD TE%<d; ST W5;"};
+        String[] inputs = {"111110001110011111100010111101001111", "100100011000000100010110000001100100", "001001100011100110010000111100010010"};
+        int[][] orders = {{0, 1, 2}, {0, 2, 1}, {1, 0, 2}, {1, 2, 0}, {2, 0, 1}, {2, 1, 0}};
+        for (int[] order : orders) {
+            StringBuilder together = new StringBuilder();
+            StringBuilder apart = new StringBuilder();
+            for (int kind : order) {
+                together.append(String.format(timers[kind], 3));
+                apart.append(String.format(timers[kind], kind));
+            }
+            ScanChart one = Check.loaded(together.toString());
+            ScanChart each = Check.loaded(apart.toString());
+            for (int k = 0; k < inputs[0].length(); k++) {
+                for (int i = 0; i < 3; i++) {
+                    boolean is = inputs[i].charAt(k) == '1';
+                    one.input(i, is);
+                    each.input(i, is);
+                }
+                one.scan(1 + k % 2);
+                each.scan(1 + k % 2);
+                for (int i = 0; i < 6; i++) {
+                    Check.same(together + " scan " + k + ", W" + i, one.word(i), each.word(i));
+                }
+            }
+        }
     }
 
     private static void skippedTimers() {
@@ -545,6 +599,45 @@ public final class BlockTest {
                 x.input(3, false);
                 x.scan(1);
                 Check.same("CV on the way back", x.block(0, 3), end + step * k);
+            }
+        }
+    }
+
+    /** "Was 0 with the last CTU (or CTD)" is also asked of one that had nothing to count any more. */
+    private static void countersRememberAtTheirEnds() {
+        for (int way = 0; way < 2; way++) {
+            String count = way == 0 ? "CTU C0 32767;" : "CTD C0 0;";
+            int end = way == 0 ? 32767 : -32768;
+            int step = way == 0 ? 1 : -1;
+            for (int beyond = 0; beyond < 2; beyond++) {
+                ScanChart x = Check.loaded("LD I1; JMPC L1; L0: LD 1;" + count + "LD 0;" + count + "LD W1; ADD 1; ST W1; LT 45;"
+                        + " JMPC L0; LD 0; ST W1; RET; L1: LD I2;" + count + "LD I3; CLR C0;");
+                for (int k = 1; k <= 7; k++) {
+                    x.run(100, 0);
+                }
+                x.run(28, 0);
+                x.input(1, true);
+                for (int k = 1; k < 7 + beyond + (way == 0 ? 0 : 1); k++) {
+                    x.input(2, true);
+                    x.scan(1);
+                    x.input(2, false);
+                    x.scan(1);
+                }
+                Check.same("before", x.block(0, 3), beyond == 1 ? end : end - step);
+                x.input(2, true);
+                x.scan(1);
+                Check.same("at the end", x.block(0, 3), end);
+                x.input(3, true);
+                x.scan(1);
+                Check.same("cleared", x.block(0, 3), 0);
+                x.input(3, false);
+                x.scan(1);
+                Check.same("x stayed, so nothing was counted", x.block(0, 3), 0);
+                x.input(2, false);
+                x.scan(1);
+                x.input(2, true);
+                x.scan(1);
+                Check.same("x anew", x.block(0, 3), step);
             }
         }
     }

@@ -161,6 +161,14 @@ public final class ChartTest {
         Check.same("the list saw X0", y.word(0), 1);
         Check.same("the list didn't see X1", y.word(1), 0);
         Check.same("step 0 is left, so Q7 stays", y.output(7), true);
+        // S and R are done in each scan, not only when a step has just become active.
+        ScanChart z = Check.loaded("LD 1; ST Q1; R Q0; STEP 0; STEP 4 S Q0 R Q1 N Q2; GO 0 TO 4;");
+        for (int k = 1; k <= 3; k++) {
+            z.scan(1);
+            Check.same("X at " + k, z.bits(3), 16);
+            Check.same("Q at " + k, z.bits(1), 5);
+            Check.same("outputs at " + k, z.bits(4), 5);
+        }
     }
 
     /** Sixteen GO's at once, and what three names on each side do, told once, twice, three times, and on both sides. */

@@ -97,6 +97,10 @@ public final class ListTest {
         Check.same("Q is reset", x.bits(1), 0);
         Check.same("M is reset", x.bits(2), 0);
         result("LD -3; S Q0; R Q1;", -3);
+        ScanChart y = Check.loaded("LD -1; S Q0; S M0; S Q1; LD " + MIN + "; S Q2; R Q1; LD 0; R Q0; S Q3;");
+        y.scan(1);
+        Check.same("Q with results below 0", y.bits(1), 5);
+        Check.same("M with results below 0", y.bits(2), 1);
     }
 
     private static void byBits() {
@@ -186,6 +190,11 @@ public final class ListTest {
         result("LD 5; LT(; LD 5; );", 0);
         result("LD 100; SUB(; LD 50; SUB(; LD 20; SUB(; LD 5; ); ); ); ADD 1;", 66);
         result(Check.times(8, "ADD 1; MUL 2; SUB(;") + "LD 3;" + Check.times(8, ");"), 3);
+        // Each of the eight puts another result aside, and with another word.
+        result("LD 1; SUB(; LD 2; SUB(; LD 4; SUB(; LD 8; SUB(; LD 16; SUB(; LD 32; SUB(; LD 64; SUB(; LD 128; SUB(; LD 256;"
+                + Check.times(8, ");"), 1 - 2 + 4 - 8 + 16 - 32 + 64 - 128 + 256);
+        result("LD 3; ADD(; LD 5; MUL(; LD 70; SUB(; LD 900; DIV(; LD 31; MOD(; LD 9; OR(; LD 6; XOR(; LD 15; AND(; LD 10;"
+                + Check.times(8, ");"), 3 + 5 * (70 - 900 / (31 % (9 | 6 ^ 15 & 10))));
         result("LD 7; ADD(; LD 2; ST W5; ); ADD(; LD W5; MUL 10; );", 29);
         result("LD 100; SUB(; LD 10; S Q0; R Q0; SUB 3; );", 93);
         ScanChart y = Check.loaded("LD 50; ADD I0; SUB(; LD 9; DIV I0; ); ST W0;");
@@ -217,6 +226,8 @@ public final class ListTest {
         y.scan(1);
         Check.same("a label before STEP leads to the next instruction", y.word(0), 4);
         Check.same("the chart goes on behind a jump", y.bits(4), 128);
+        result("STEP 0; GO 0 TO 0; LD 5; JMP L4; GO 0 TO 0; LD 6; STEP 1; GO 1 TO 1; L4: ADD 1; MUL 2;", 12);
+        result("JMP L4; LD 1; L4:; GO 0 TO 0; L5:; STEP 0; L6: GO 0 TO 0; ADD 3; JMP L7; ADD 4; L7:;", 3);
     }
 
     /** "On from the label (behind the last one: the list ends)", with each jump and at each end of a text. */

@@ -460,6 +460,15 @@ public final class LoadTest {
         fault(6, "STEP 0; JMP ^L1; GO 0 TO 2;");
         fault(6, "GO ^15 TO 0; STEP 0;");
         fault(6, Check.times(690 / 5, "    ;") + "JMP ^L31;");
+        // The first in the text, whichever its number is.
+        fault(6, "JMP ^L5; JMP L3;");
+        fault(6, "JMP ^L3; JMP L5;");
+        fault(6, "JMPC ^L31; JMPCN L0; JMP L31; L1:;");
+        fault(6, "GO ^5 TO 3; STEP 4;");
+        fault(6, "GO ^3 TO 5; STEP 4;");
+        fault(6, "GO 4 TO 4 ^9 2; GO 2 TO 9; STEP 4;");
+        fault(6, "JMP ^L9; GO 2 TO 2; JMP L1;");
+        fault(6, "GO ^9 TO 2; JMP L1; STEP 2;");
         // Steps told as cells need no STEP, behind IF either.
         fine("LD X5; STEP 0; GO 0 TO 0 IF X7;", 1);
         fine("GO 1 TO 2; STEP 2; STEP 1; JMP L0; L0:;", 1);

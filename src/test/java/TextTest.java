@@ -52,7 +52,14 @@ public final class TextTest {
         ScanChart x = new ScanChart();
         Check.feed(x, "nonsense");
         Check.same("load", x.load(), -1);
-        Check.same("wipe", x.wipe(), 8);
+        Check.same("feed", x.feed(1, 'N'), 9);
+        Check.same("fault stays behind a feed", x.fault(), 1);
+        Check.same("place stays behind a feed", x.place(), 0);
+        x.scan(1);
+        x.run(2, 1);
+        Check.same("fault stays behind scans", x.fault(), 1);
+        Check.same("place stays behind scans", x.place(), 0);
+        Check.same("wipe", x.wipe(), 9);
         Check.same("fault stays behind a wipe", x.fault(), 1);
         Check.same("place stays behind a wipe", x.place(), 0);
         Check.same("wipe", x.wipe(), 0);
